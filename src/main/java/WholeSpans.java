@@ -327,11 +327,13 @@ public final class WholeSpans {
         /** The SPAN must lie above those that are there, and not touch them. */
         void append(int from, int to) {
             if (spans == 0) {
-                becomeSpan(from, to);
+                low = from;
+                high = to;
+                spans = 1;
             } else {
-                spans = 2;
                 secondLow = from;
                 secondHigh = to;
+                spans = 2;
             }
         }
 
@@ -447,14 +449,14 @@ public final class WholeSpans {
             int kept = 0;
             for (int i = 1; i < count; i++) {
                 if (lows[i] <= highs[kept] + 1L) {
-                    highs[kept] = Math.max(highs[kept], highs[i]);
+                    highs[kept] = highs[i] > highs[kept] ? highs[i] : highs[kept];
                 } else {
                     kept++;
                     lows[kept] = lows[i];
                     highs[kept] = highs[i];
                 }
             }
-            count = Math.min(count, kept + 1);
+            count = count == 0 ? 0 : kept + 1;
         }
 
         private void uniteClosest() {
@@ -485,7 +487,7 @@ public final class WholeSpans {
             forgetAll();
         }
 
-        private void forgetAll() {
+        void forgetAll() {
             values[0] = LEAST;
             values[1] = MOST;
             count = 2;
@@ -649,47 +651,48 @@ public final class WholeSpans {
             if (isCondition(s.kind)) {
                 return sharpen(s, opposite(s.kind - FIRST_CONDITION));
             }
-            SpanSet out = given[s.a];
-            if (s.kind == NUMBER) {
-                out.becomeSpan(s.b, s.b);
-            } else if (s.kind == ANY) {
-                out.becomeSpan(s.b, s.c);
-            } else if (s.kind == COPY) {
-                out.becomeCopy(s.sets[s.b]);
-            } else {
-                gathering.startAnew();
-                gatherResults(s);
-                gathering.makeInto(out);
+            gathering.startAnew();
+            switch (s.kind) {
+                case NUMBER:
+                    gathering.add(s.b, s.b);
+                    break;
+                case ANY:
+                    gathering.add(s.b, s.c);
+                    break;
+                case SUM:
+                case DIFFERENCE:
+                case PRODUCT:
+                    gatherPairs(s.kind, s.sets[s.b], s.sets[s.c]);
+                    break;
+                case QUOTIENT:
+                    splitDivisor(s.sets[s.c]);
+                    gatherPairs(QUOTIENT, s.sets[s.b], below);
+                    gatherPairs(QUOTIENT, s.sets[s.b], above);
+                    break;
+                case REST:
+                    splitDivisor(s.sets[s.c]);
+                    gatherRests(s.sets[s.b]);
+                    break;
+                default:
+                    gatherOfOne(s.kind, s.sets[s.b], s.c);
+                    break;
             }
-            return !out.isNothing();
+            gathering.makeInto(given[s.a]);
+            return !given[s.a].isNothing();
         }
 
-        private void gatherResults(Statement s) {
-            SpanSet x = s.sets[s.b];
-            if (!namesTwoOperands(s.kind)) {
-                gatherOfOne(s.kind, x, s.c);
-                return;
-            }
-            SpanSet y = s.sets[s.c];
-            if (s.kind != QUOTIENT && s.kind != REST) {
-                gatherPairs(s.kind, x, y);
-                return;
-            }
-            below.becomePart(y, LEAST, -1);
-            above.becomePart(y, 1, MOST);
-            if (s.kind == REST) {
-                gatherRests(x);
-            } else {
-                gatherPairs(QUOTIENT, x, below);
-                gatherPairs(QUOTIENT, x, above);
-            }
+        private void splitDivisor(SpanSet divisor) {
+            below.becomePart(divisor, LEAST, -1);
+            above.becomePart(divisor, 1, MOST);
         }
 
         private void gatherOfOne(int kind, SpanSet x, int c) {
             for (int k = 0; k < x.spans; k++) {
                 int low = x.low(k);
                 int high = x.high(k);
-                if (kind == MOVED) {
+                if (kind == COPY) {
+                    gathering.add(low, high);
+                } else if (kind == MOVED) {
                     gathering.add(low >> c, high >> c);
                 } else if (kind == BITS) {
                     addBits(low, high, c);
@@ -712,30 +715,33 @@ public final class WholeSpans {
             }
         }
 
+        /** The least and the greatest result of two SPANS come of their ends, whichever of these acts it is. */
         private void gatherPairs(int kind, SpanSet x, SpanSet y) {
             for (int i = 0; i < x.spans; i++) {
                 for (int j = 0; j < y.spans; j++) {
-                    addPair(kind, x.low(i), x.high(i), y.low(j), y.high(j));
+                    long p = exact(kind, x.low(i), y.low(j));
+                    long q = exact(kind, x.low(i), y.high(j));
+                    long r = exact(kind, x.high(i), y.low(j));
+                    long s = exact(kind, x.high(i), y.high(j));
+                    long lo = Math.min(Math.min(p, q), Math.min(r, s));
+                    long hi = Math.max(Math.max(p, q), Math.max(r, s));
+                    gathering.addRound(lo, hi, LEAST, ALL_NUMBERS);
                 }
             }
         }
 
-        private void addPair(int kind, long xLow, long xHigh, long yLow, long yHigh) {
-            if (kind == SUM) {
-                gathering.addRound(xLow + yLow, xHigh + yHigh, LEAST, ALL_NUMBERS);
-            } else if (kind == DIFFERENCE) {
-                gathering.addRound(xLow - yHigh, xHigh - yLow, LEAST, ALL_NUMBERS);
-            } else if (kind == PRODUCT) {
-                addCorners(xLow * yLow, xLow * yHigh, xHigh * yLow, xHigh * yHigh);
-            } else if (yLow != 0 && yHigh != 0) {
-                addCorners(xLow / yLow, xLow / yHigh, xHigh / yLow, xHigh / yHigh);
+        private static long exact(int kind, long x, long y) {
+            switch (kind) {
+                case SUM:
+                    return x + y;
+                case DIFFERENCE:
+                    return x - y;
+                case PRODUCT:
+                    return x * y;
+                default:
+                    // The divisor was split at 0, so the other answer is never given.
+                    return y == 0 ? 0 : x / y;
             }
-        }
-
-        private void addCorners(long p, long q, long r, long s) {
-            long lo = Math.min(Math.min(p, q), Math.min(r, s));
-            long hi = Math.max(Math.max(p, q), Math.max(r, s));
-            gathering.addRound(lo, hi, LEAST, ALL_NUMBERS);
         }
 
         /** The divisor's numbers stand in below and above. */
@@ -793,38 +799,39 @@ public final class WholeSpans {
                 return relation == AT_MOST || relation == EQUAL || relation == AT_LEAST
                         || relation == NOT_LESS_WITHOUT_SIGN;
             }
+            // a >= b and a > b are b <= a and b < a.
+            boolean turned = relation == AT_LEAST || relation == MORE;
+            int lesser = turned ? s.b : s.a;
+            int greater = turned ? s.a : s.b;
+            SpanSet x = s.sets[lesser];
+            SpanSet y = s.sets[greater];
             switch (relation) {
                 case LESS:
-                    sharpenOrder(s.sets, s.a, s.b, 1);
+                case MORE:
+                    given[lesser].becomePart(x, LEAST, y.greatest() - 1L);
+                    given[greater].becomePart(y, x.least() + 1L, MOST);
                     break;
                 case AT_MOST:
-                    sharpenOrder(s.sets, s.a, s.b, 0);
+                case AT_LEAST:
+                    given[lesser].becomePart(x, LEAST, y.greatest());
+                    given[greater].becomePart(y, x.least(), MOST);
                     break;
                 case EQUAL:
-                    gathering.makeCommon(s.sets[s.a], s.sets[s.b], given[s.a]);
+                    gathering.makeCommon(x, y, given[s.a]);
                     given[s.b].becomeCopy(given[s.a]);
                     break;
                 case OTHER:
-                    sharpenOther(s.sets[s.a], s.sets[s.b], s.a, s.b);
-                    break;
-                case AT_LEAST:
-                    sharpenOrder(s.sets, s.b, s.a, 0);
-                    break;
-                case MORE:
-                    sharpenOrder(s.sets, s.b, s.a, 1);
+                    sharpenOther(x, y, s.a, s.b);
                     break;
                 case LESS_WITHOUT_SIGN:
-                    sharpenWithoutSign(s.sets[s.a], s.sets[s.b], s.a);
+                    if (y.least() >= 0) {
+                        given[s.a].becomePart(x, 0, y.greatest() - 1L);
+                    }
                     break;
                 default:
                     break;
             }
             return !given[s.a].isNothing() && !given[s.b].isNothing();
-        }
-
-        private void sharpenOrder(SpanSet[] sets, int lesser, int greater, int apart) {
-            given[lesser].becomePart(sets[lesser], LEAST, (long) sets[greater].greatest() - apart);
-            given[greater].becomePart(sets[greater], (long) sets[lesser].least() + apart, MOST);
         }
 
         private void sharpenOther(SpanSet x, SpanSet y, int a, int b) {
@@ -833,12 +840,6 @@ public final class WholeSpans {
             }
             if (x.isOneNumber()) {
                 given[b].becomeWithoutEnd(y, x.least());
-            }
-        }
-
-        private void sharpenWithoutSign(SpanSet x, SpanSet y, int a) {
-            if (y.least() >= 0) {
-                given[a].becomePart(x, 0, y.greatest() - 1L);
             }
         }
     }

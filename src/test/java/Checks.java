@@ -21,6 +21,23 @@ final class Checks {
         return false;
     }
 
+    static void dueText(String call, String got, String want) {
+        due(call + " answered " + got + ", due is " + want + "; that they are the same", got.equals(want) ? 1 : 0, 1);
+    }
+
+    /** A SET as a text: each SPAN as low..high, with a blank between two. */
+    static String set(WholeSpans x, int at, int place) {
+        StringBuilder text = new StringBuilder();
+        for (int k = 0; k < x.pieces(at, place); k++) {
+            text.append(k == 0 ? "" : " ").append(x.end(at, place, k, false)).append("..").append(x.end(at, place, k, true));
+        }
+        return text.toString();
+    }
+
+    static void dueSet(String what, WholeSpans x, int at, int place, String want) {
+        dueText(what + ": place " + place + " at " + at, set(x, at, place), want);
+    }
+
     static void dueThrow(String call, Class<?> want, Runnable action) {
         Class<?> got = null;
         try {
