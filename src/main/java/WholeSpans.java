@@ -639,8 +639,11 @@ public final class WholeSpans {
         }
 
         boolean goesToNamed(Statement s) {
+            if (s.named() == Statement.NONE) {
+                return false;
+            }
             copySets(s.sets, given);
-            return s.kind == JUMP || isCondition(s.kind) && sharpen(s, s.kind - FIRST_CONDITION);
+            return s.kind == JUMP || sharpen(s, s.kind - FIRST_CONDITION);
         }
 
         boolean goesBehind(Statement s) {

@@ -29,7 +29,8 @@ final class Checks {
     static String set(WholeSpans x, int at, int place) {
         StringBuilder text = new StringBuilder();
         for (int k = 0; k < x.pieces(at, place); k++) {
-            text.append(k == 0 ? "" : " ").append(x.end(at, place, k, false)).append("..").append(x.end(at, place, k, true));
+            text.append(k == 0 ? "" : " ").append(x.end(at, place, k, false));
+            text.append("..").append(x.end(at, place, k, true));
         }
         return text.toString();
     }
