@@ -25,7 +25,6 @@ public final class FactsTest {
         widening();
         wideningBothEnds();
         narrowingLosesStatements();
-        narrowingTwice();
         heads();
         Checks.finish("FactsTest");
     }
@@ -480,23 +479,6 @@ public final class FactsTest {
         Checks.dueSet("lost", x, 8, 0, "10..10");
         Checks.dueSet("lost", x, 8, 4, "0..0");
         Checks.due("lost: narrowed", x.told(3), 4);
-    }
-
-    private static void narrowingTwice() {
-        // PLACE 0 is counted up to 5, but widened to MOST it goes round, and down to LEAST the HEAD 1 is widened.
-        // NARROWED once, 1 has LEAST..4 and 3 LEAST + 1..5; the second time each begins one higher.
-        WholeSpans x = new WholeSpans();
-        x.begin(1, 5, 5);
-        x.begin(2, 1, 1);
-        x.op(0, 0, 0, 0);
-        x.op(1, 3, 0, 0);
-        x.op(2, 0, 0, 2);
-        x.op(11, 0, 1, 1);
-        x.op(19, 0, 0, 0);
-        x.run();
-        Checks.dueSet("twice", x, 1, 0, "-2147483647..4");
-        Checks.dueSet("twice", x, 3, 0, "-2147483646..5");
-        Checks.dueSet("twice", x, 4, 0, "5..5");
     }
 
     private static void heads() {
