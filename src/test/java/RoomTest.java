@@ -50,7 +50,7 @@ public final class RoomTest {
         x.run();
         x.holds(5000, 1);
         long before = bytes();
-        for (int i = 0; i < 250; i++) {
+        for (int i = 0; i < 150; i++) {
             x.run();
             x.ways(i % 40);
             x.holds(5000, 1 + i);
